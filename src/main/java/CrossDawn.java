@@ -275,6 +275,7 @@ public final class CrossDawn {
         private final int[] firstPlaces = new int[MOST_STREETS];
         private final int[] secondPlaces = new int[MOST_STREETS];
         private final int[] degrees = new int[MOST_CROSSINGS];
+        /** By crossing and place, the lane by which one leaves there. */
         private final int[] around = new int[MOST_CROSSINGS * MOST_STREETS];
         private final int[] foot = new int[MOST_CROSSINGS * MOST_CROSSINGS];
         private int crossings = 0;
@@ -340,15 +341,15 @@ public final class CrossDawn {
             seconds[street] = b;
             lengths[street] = length;
             bothWays[street] = both;
-            firstPlaces[street] = layAround(a, street);
-            secondPlaces[street] = layAround(b, street);
+            firstPlaces[street] = layAround(a, 2 * street);
+            secondPlaces[street] = layAround(b, 2 * street + 1);
             shortenFootWays(a, b, length);
             return street;
         }
 
-        private int layAround(int crossing, int street) {
+        private int layAround(int crossing, int lane) {
             int place = degrees[crossing];
-            around[crossing * MOST_STREETS + place] = street;
+            around[crossing * MOST_STREETS + place] = lane;
             degrees[crossing] = place + 1;
             return place;
         }
@@ -379,16 +380,12 @@ public final class CrossDawn {
             return degrees[crossing];
         }
 
-        int streetAround(int crossing, int place) {
+        int laneAround(int crossing, int place) {
             return around[crossing * MOST_STREETS + place];
         }
 
         int lengthOf(int street) {
             return lengths[street];
-        }
-
-        int laneFrom(int crossing, int street) {
-            return firsts[street] == crossing ? 2 * street : 2 * street + 1;
         }
 
         int laneEnd(int lane) {
@@ -404,17 +401,21 @@ public final class CrossDawn {
             return minute >= hour;
         }
 
-        /** Both streets must touch the crossing, and be different. */
-        boolean isNear(int crossing, int from, int to, int minute) {
-            int n = degrees[crossing];
-            int further = placeAt(crossing, to) - placeAt(crossing, from);
-            if (further < 0) {
-                further += n;
-            }
-            return further == (isOnRight(minute) ? n - 1 : 1);
+        /** How much further round a near turn goes. */
+        int nearStep(int crossing, int minute) {
+            return isOnRight(minute) ? degrees[crossing] - 1 : 1;
         }
 
-        private int placeAt(int crossing, int street) {
+        /** Both streets must touch the crossing, and be different. */
+        boolean isNear(int crossing, int from, int to, int minute) {
+            int further = placeAt(crossing, to) - placeAt(crossing, from);
+            if (further < 0) {
+                further += degrees[crossing];
+            }
+            return further == nearStep(crossing, minute);
+        }
+
+        int placeAt(int crossing, int street) {
             return firsts[street] == crossing ? firstPlaces[street] : secondPlaces[street];
         }
 
@@ -599,7 +600,7 @@ public final class CrossDawn {
         }
 
         int startOf(int token) {
-            return token < MOST_TOKENS ? starts[token] : tape.length();
+            return token < MOST_TOKENS ? starts[token] : NONE;
         }
 
         /** Of a street or a number. */
@@ -636,7 +637,8 @@ public final class CrossDawn {
                 return readStreet();
             }
             if (isLetter(c)) {
-                return readWord();
+                skipLetters();
+                return wordSort();
             }
             if (isDigit(c)) {
                 return readNumber();
@@ -667,15 +669,15 @@ public final class CrossDawn {
             return stop - from;
         }
 
-        private int readWord() {
+        private void skipLetters() {
             while (stop < tape.length() && isLetter(tape.at(stop))) {
                 stop++;
             }
-            return stop - start <= LONGEST_WORD ? wordSort() : WRONG;
         }
 
         private int wordSort() {
-            return isWord("car") ? CAR
+            return stop - start > LONGEST_WORD ? WRONG
+                : isWord("car") ? CAR
                 : isWord("bus") ? BUS
                 : isWord("truck") ? TRUCK
                 : isWord("bike") ? BIKE
@@ -715,8 +717,9 @@ public final class CrossDawn {
     }
 
     /**
-     * Reads the tape as acts into a draft. Each fault is at the beginning of a token, and tokens
-     * are read one behind the other: so the first fault met is the first by its place.
+     * Reads the tape as acts into a draft, one token behind the other. Each fault is at the
+     * beginning of a token, so that the first one met, where the reading stops, is the first by
+     * its place.
      */
     private static final class Parser {
         private static final int NO_TOKEN = 1;
@@ -731,6 +734,7 @@ public final class CrossDawn {
         /** The token that is looked at; it never goes beyond the end. */
         private int token = 0;
         private int number = 0;
+        private boolean numberFits = true;
         private int kind = Lexer.ALL;
         private int street = NONE;
         private int start = 0;
@@ -754,17 +758,25 @@ public final class CrossDawn {
         }
 
         boolean parse() {
-            faultKind = 0;
-            faultPlace = NONE;
-            token = 0;
-            draft.clear();
             lexer.cut();
+            draft.clear();
+            token = 0;
+            numberFits = true;
             boolean right = true;
             // One act more than there may be, which is then refused at its first word.
             for (int i = 0; i <= Book.MOST_ACTS && right && sortHere() != Lexer.END; i++) {
                 right = readAct();
             }
+            faultKind = right ? 0 : faultHere();
+            faultPlace = right ? NONE : lexer.startOf(token);
             return right;
+        }
+
+        private int faultHere() {
+            if (!numberFits) {
+                return BAD_NUMBER;
+            }
+            return sortHere() == Lexer.WRONG ? NO_TOKEN : MISPLACED;
         }
 
         private int sortHere() {
@@ -775,7 +787,7 @@ public final class CrossDawn {
             int sort = sortHere();
             boolean begins = sort == Lexer.MAY || sort == Lexer.NOT || sort == Lexer.LIMIT;
             if (!begins || draft.isFull()) {
-                return refuse();
+                return false;
             }
             token++;
             kind = Lexer.ALL;
@@ -796,36 +808,32 @@ public final class CrossDawn {
                 return false;
             }
             speed = number;
-            return isKindHere() ? readKind() : true;
-        }
-
-        private boolean isKindHere() {
-            return sortHere() >= Lexer.CAR && sortHere() <= Lexer.ALL;
+            readKind();
+            return true;
         }
 
         private boolean readKind() {
-            if (!isKindHere()) {
-                return refuse();
+            int sort = sortHere();
+            if (sort < Lexer.CAR || sort > Lexer.ALL) {
+                return false;
             }
-            kind = sortHere();
+            kind = sort;
             token++;
             return true;
         }
 
         private boolean readStreet() {
-            if (sortHere() != Lexer.ON) {
+            if (!readOver(Lexer.ON)) {
                 return true;
             }
-            token++;
             street = lexer.valueOf(token);
             return readOver(Lexer.STREET);
         }
 
         private boolean readSpan() {
-            if (sortHere() != Lexer.FROM) {
+            if (!readOver(Lexer.FROM)) {
                 return true;
             }
-            token++;
             if (!readNumber(0, DAY_MINUTES)) {
                 return false;
             }
@@ -838,30 +846,23 @@ public final class CrossDawn {
         }
 
         private boolean readNumber(int least, int most) {
-            number = lexer.valueOf(token);
-            boolean fits = number >= least && number <= most;
-            if (sortHere() == Lexer.NUMBER && !fits) {
-                return blame(BAD_NUMBER);
+            if (sortHere() != Lexer.NUMBER) {
+                return false;
             }
-            return readOver(Lexer.NUMBER);
+            number = lexer.valueOf(token);
+            numberFits = number >= least && number <= most;
+            if (numberFits) {
+                token++;
+            }
+            return numberFits;
         }
 
         private boolean readOver(int sort) {
             if (sortHere() != sort) {
-                return refuse();
+                return false;
             }
             token++;
             return true;
-        }
-
-        private boolean refuse() {
-            return blame(sortHere() == Lexer.WRONG ? NO_TOKEN : MISPLACED);
-        }
-
-        private boolean blame(int what) {
-            faultKind = what;
-            faultPlace = lexer.startOf(token);
-            return false;
         }
     }
 
@@ -978,13 +979,7 @@ public final class CrossDawn {
         private void search() {
             setOut();
             int steadyFrom = Math.max(town.hourMinute(), book.lastChange());
-            for (int gone = 1; gone <= LONGEST_WAY && waiting > 0; gone++) {
-                int streets = fewestTo(gone);
-                if (streets > 0) {
-                    minutes = gone;
-                    streetCount = streets;
-                    return;
-                }
+            for (int gone = 1; gone <= LONGEST_WAY && waiting > 0 && minutes == NONE; gone++) {
                 goOn(gone, knownMinute + gone >= steadyFrom);
             }
         }
@@ -997,7 +992,7 @@ public final class CrossDawn {
             behindFar.begin();
             behindNear.moveTo(knownKind, knownMinute);
             for (int place = 0; place < town.degree(knownFrom); place++) {
-                int lane = town.laneFrom(knownFrom, town.streetAround(knownFrom, place));
+                int lane = town.laneAround(knownFrom, place);
                 enter(lane, 0, behindNear.minutesOn(lane), 1);
             }
         }
@@ -1007,7 +1002,7 @@ public final class CrossDawn {
             if (drive < 1 || arrival > LONGEST_WAY) {
                 return;
             }
-            int cell = cell(arrival, lane);
+            int cell = arrival % RING * Town.MOST_LANES + lane;
             if (fewest[cell] == 0) {
                 fewest[cell] = streets;
                 waiting++;
@@ -1016,53 +1011,43 @@ public final class CrossDawn {
             }
         }
 
-        private static int cell(int gone, int lane) {
-            return gone % RING * Town.MOST_LANES + lane;
-        }
-
-        private int fewestTo(int gone) {
-            int best = 0;
-            for (int lane = 0; lane < 2 * town.streetCount(); lane++) {
-                int streets = fewest[cell(gone, lane)];
-                if (streets > 0 && town.laneEnd(lane) == knownTo) {
-                    best = best == 0 ? streets : Math.min(best, streets);
-                }
-            }
-            return best;
-        }
-
         private void goOn(int gone, boolean steady) {
             behindNear.moveTo(knownKind, knownMinute + gone + town.turnMinutes(true));
             behindFar.moveTo(knownKind, knownMinute + gone + town.turnMinutes(false));
-            for (int lane = 0; lane < 2 * town.streetCount(); lane++) {
-                int cell = cell(gone, lane);
-                int streets = fewest[cell];
+            int row = gone % RING * Town.MOST_LANES;
+            int lanes = 2 * town.streetCount();
+            for (int lane = 0; lane < lanes; lane++) {
+                int streets = fewest[row + lane];
                 if (streets == 0) {
                     continue;
                 }
-                fewest[cell] = 0;
+                fewest[row + lane] = 0;
                 waiting--;
-                if (!steady || (settled >>> lane & 1) == 0) {
+                if (town.laneEnd(lane) == knownTo) {
+                    arrive(gone, streets);
+                } else if ((settled >>> lane & 1) == 0) {
                     leave(lane, gone, streets);
-                }
-                if (steady) {
-                    settled |= 1 << lane;
+                    settled |= steady ? 1 << lane : 0;
                 }
             }
+        }
+
+        private void arrive(int gone, int streets) {
+            minutes = gone;
+            streetCount = streetCount == NONE ? streets : Math.min(streetCount, streets);
         }
 
         private void leave(int lane, int gone, int streets) {
             int crossing = town.laneEnd(lane);
-            int street = lane / 2;
-            for (int place = 0; place < town.degree(crossing); place++) {
-                int next = town.streetAround(crossing, place);
-                if (next == street) {
-                    continue;
-                }
-                boolean near = town.isNear(crossing, street, next, knownMinute + gone);
-                int nextLane = town.laneFrom(crossing, next);
-                int drive = near ? behindNear.minutesOn(nextLane) : behindFar.minutesOn(nextLane);
-                enter(nextLane, gone + town.turnMinutes(near), drive, streets + 1);
+            int degree = town.degree(crossing);
+            int nearStep = town.nearStep(crossing, knownMinute + gone);
+            int place = town.placeAt(crossing, lane / 2);
+            for (int further = 1; further < degree; further++) {
+                place = place + 1 < degree ? place + 1 : 0;
+                boolean near = further == nearStep;
+                int next = town.laneAround(crossing, place);
+                int drive = near ? behindNear.minutesOn(next) : behindFar.minutesOn(next);
+                enter(next, gone + town.turnMinutes(near), drive, streets + 1);
             }
         }
     }

@@ -19,6 +19,7 @@ public final class PromisesTest {
         ways();
         waysInTime();
         wayLength();
+        slowestStep();
         signsAndCrews();
         walks();
         orders();
@@ -217,6 +218,10 @@ public final class PromisesTest {
         due("9: a byte 255", x.acts(), -1);
         due("10: fault", x.fault(0), 1);
         due("10: place", x.fault(1), 3);
+        due("7: bytes above 127", x.feed(0xed617920, 0x6361723b, 0x20202020, 0x20202020, 0x20202020), 20);
+        due("9: no word", x.acts(), -1);
+        due("10: fault", x.fault(0), 1);
+        due("10: place", x.fault(1), 0);
         String most = "may car;" + " ".repeat(792);
         right(most, 1);
     }
@@ -315,6 +320,11 @@ public final class PromisesTest {
         due("9: those there are stay", x.about(3), 2);
         due("9: and hold", x.may(0, 0, 0), 0);
         due("9: and hold", x.speed(0, 0, 0), 9);
+        due("9: another fault", read(x, "limit 0;"), -1);
+        due("10: the latest fault", x.fault(0), 3);
+        due("9: a third", read(x, "may;"), -1);
+        due("10: the latest fault", x.fault(0), 2);
+        due("10: the latest place", x.fault(1), 3);
         due("9: none", read(x, ""), 0);
         due("10: no fault", x.fault(0), 0);
         due("10: no place", x.fault(1), -1);
@@ -370,6 +380,7 @@ public final class PromisesTest {
         }
         read(x, "limit 3;");
         due("13: rounded up", x.fastest(0, 0, 1, 0), 17);
+        due("13: both", x.fastest(0, 0, 2, 0), 34);
         x.street(0, 2, 7, true);
         due("13: a street told later", x.fastest(0, 0, 2, 0), 24);
         due("14: a street told later", x.streets(0, 0, 2, 0), 1);
@@ -430,6 +441,17 @@ public final class PromisesTest {
         read(x, "limit 1; not bike on s1 from 1439 to 1440; not car on s1 from 1438 to 1439;");
         due("13: all is as in 1439", x.fastest(3, 0, 2, 1400), -1);
         due("13: not as in 1438", x.fastest(0, 0, 2, 1400), 1201);
+    }
+
+    private static void slowestStep() {
+        CrossDawn x = town(4);
+        x.street(0, 1, 1, true);
+        x.street(1, 2, 60, true);
+        x.street(2, 3, 1, true);
+        x.corners(9, 9);
+        read(x, "limit 1;");
+        due("13: a step of 609 minutes", x.fastest(0, 0, 2, 0), 619);
+        due("13: and one behind it", x.fastest(0, 0, 3, 0), 638);
     }
 
     private static void signsAndCrews() {
