@@ -633,8 +633,8 @@ public final class CrossDawn {
             if (c == NONE) {
                 return END;
             }
-            if (c == 's' && isDigit(tape.at(start + 1))) {
-                return readStreet();
+            if (c == 's' && readStreet()) {
+                return STREET;
             }
             if (isLetter(c)) {
                 skipLetters();
@@ -647,11 +647,16 @@ public final class CrossDawn {
             return c == ';' ? SEMICOLON : WRONG;
         }
 
-        private int readStreet() {
+        /** Goes back where there is none: the s begins a word then, and digits are a number. */
+        private boolean readStreet() {
             int digits = readDigits(start + 1);
-            boolean right = digits <= MOST_STREET_DIGITS && value < Town.MOST_STREETS
-                && !isLetter(tape.at(stop));
-            return right ? STREET : WRONG;
+            boolean right = digits >= 1 && digits <= MOST_STREET_DIGITS
+                && value < Town.MOST_STREETS && !isLetter(tape.at(stop));
+            if (!right) {
+                stop = start;
+                value = 0;
+            }
+            return right;
         }
 
         private int readNumber() {

@@ -11,6 +11,7 @@ public final class PromisesTest {
         turns();
         tape();
         tokens();
+        wordsBeforeDigits();
         misplaced();
         numbers();
         actLimits();
@@ -246,15 +247,34 @@ public final class PromisesTest {
         fault("limit 5car;", 1, 6);
         fault("limit 50car;", 1, 6);
         fault("limit 1 car from 5to 6;", 1, 17);
-        fault("may car on s16;", 1, 11);
-        fault("may car on s99;", 1, 11);
-        fault("may car on s001;", 1, 11);
-        fault("may car on s1x;", 1, 11);
-        fault("may car on s1from 1 to 2;", 1, 11);
-        right("may car on s1;", 1);
-        fault("may s99", 1, 4);
-        fault("s99999999999999999999999999", 1, 0);
         fault("99999999999999999999999999", 1, 0);
+        right("may car on s1;", 1);
+    }
+
+    /** An s with digits that are no street's is a word, whatever its digits are. */
+    private static void wordsBeforeDigits() {
+        fault("may car on s16;", 2, 11);
+        fault("may car on s16; \0\0\0\0", 2, 11);
+        fault("may car on s99;", 2, 11);
+        fault("may car on s001;", 2, 11);
+        fault("may car on s12345;", 2, 11);
+        fault("may car on s1x;", 2, 11);
+        fault("may car on s16x;", 2, 11);
+        fault("may car on s1from 1 to 2;", 2, 11);
+        fault("may car on s1s1;", 2, 11);
+        fault("may car on s1 6;", 2, 14);
+        fault("may car on s15?", 1, 14);
+        fault("may car on ?16;", 1, 11);
+        fault("may s99", 2, 4);
+        fault("may car s16;", 2, 8);
+        fault("limit 5 s16;", 2, 8);
+        fault("limit s16;", 2, 6);
+        fault("may car from s16 to 20;", 2, 13);
+        fault("may car; s16", 2, 9);
+        fault("s16", 2, 0);
+        fault("s99999999999999999999999999", 2, 0);
+        fault("s4294967297;", 2, 0);
+        right("may car on s15 from 16 to 17;", 1);
     }
 
     private static void misplaced() {
