@@ -1,7 +1,5 @@
 /** For each promise: ordinary calls, the edges that the document names, and wrong calls. */
-public final class PromisesTest {
-    private static int wrong = 0;
-
+public final class PromisesTest extends Due {
     public static void main(String[] args) {
         newObject();
         crossings();
@@ -28,67 +26,7 @@ public final class PromisesTest {
         counts();
         known();
         differing();
-        System.out.println(wrong == 0 ? "all promises hold" : wrong + " answers are wrong");
-        if (wrong != 0) {
-            System.exit(1);
-        }
-    }
-
-    private static void due(String what, long got, long want) {
-        if (got != want) {
-            wrong++;
-            System.out.println(what + ": answered " + got + ", due is " + want);
-        }
-    }
-
-    private static void due(String what, boolean got, boolean want) {
-        due(what, got ? 1 : 0, want ? 1 : 0);
-    }
-
-    private static CrossDawn town(int crossings) {
-        CrossDawn x = new CrossDawn();
-        for (int i = 0; i < crossings; i++) {
-            x.crossing();
-        }
-        return x;
-    }
-
-    /** Puts a text on the tape and answers acts(). */
-    private static int read(CrossDawn x, String text) {
-        int before = x.about(8);
-        StringBuilder padded = new StringBuilder(text);
-        while (padded.length() % 20 != 0) {
-            padded.append('?');
-        }
-        for (int i = 0; i < padded.length(); i += 20) {
-            x.feed(word(padded, i), word(padded, i + 4), word(padded, i + 8), word(padded, i + 12),
-                word(padded, i + 16));
-        }
-        x.end(before + text.length());
-        return x.acts();
-    }
-
-    private static int word(CharSequence text, int i) {
-        return text.charAt(i) << 24 | text.charAt(i + 1) << 16 | text.charAt(i + 2) << 8
-            | text.charAt(i + 3);
-    }
-
-    private static void fault(String text, int kind, int place) {
-        CrossDawn x = new CrossDawn();
-        due("acts of '" + text + "'", read(x, text), -1);
-        due("fault of '" + text + "'", x.fault(0), kind);
-        due("place of the fault of '" + text + "'", x.fault(1), place);
-        due("tape behind '" + text + "'", x.about(8), 0);
-        due("acts behind '" + text + "'", x.about(3), 0);
-    }
-
-    private static void right(String text, int acts) {
-        CrossDawn x = new CrossDawn();
-        due("acts of '" + text + "'", read(x, text), acts);
-        due("no fault in '" + text + "'", x.fault(0), 0);
-        due("no place in '" + text + "'", x.fault(1), -1);
-        due("acts there are of '" + text + "'", x.about(3), acts);
-        due("tape behind '" + text + "'", x.about(8), 0);
+        finish();
     }
 
     private static void newObject() {
@@ -143,7 +81,7 @@ public final class PromisesTest {
         due("4: is", x.about(2), 0);
     }
 
-    private static CrossDawn star() {
+    private static CrossDawn crossroads() {
         CrossDawn x = town(5);
         x.street(0, 1, 10, true);
         x.street(2, 0, 10, true);
@@ -153,7 +91,7 @@ public final class PromisesTest {
     }
 
     private static void corners() {
-        CrossDawn x = star();
+        CrossDawn x = crossroads();
         due("5: near -1", x.corners(-1, 3), false);
         due("5: near 10", x.corners(10, 3), false);
         due("5: far -1", x.corners(3, -1), false);
@@ -169,7 +107,7 @@ public final class PromisesTest {
     }
 
     private static void turns() {
-        CrossDawn x = star();
+        CrossDawn x = crossroads();
         x.corners(1, 2);
         for (int from = 0; from < 4; from++) {
             for (int further = 1; further < 4; further++) {
@@ -408,7 +346,7 @@ public final class PromisesTest {
 
     /** What was answered must be forgotten when something changes. */
     private static void waysInTime() {
-        CrossDawn x = star();
+        CrossDawn x = crossroads();
         due("13: near", x.fastest(0, 1, 2, 0), 40);
         due("13: near on the right is far", x.fastest(0, 1, 2, 280), 42);
         x.hour(0);
