@@ -11,6 +11,7 @@ public final class DriveEdgesTest extends Due {
         elseFive();
         kindOrAll();
         streetOrNoneTold();
+        allDayUnlessTold();
         roundedUp();
         mayWhenItEnters();
         speedWhenItEnters();
@@ -20,6 +21,7 @@ public final class DriveEdgesTest extends Due {
         noWaiting();
         noWayBack();
         rounds();
+        longestTurnAndStreet();
         minutes3000();
         streetsUpTo3000();
         asIn1439();
@@ -193,6 +195,19 @@ public final class DriveEdgesTest extends Due {
         }
     }
 
+    private static void allDayUnlessTold() {
+        sentence("[from M to M] (an act without them is for all minutes, whatever those ahead of it tell)");
+        CrossDawn x = chain(3, 5, true);
+        read(x, "not bus on s1 from 10 to 20; not all; limit 9 bus on s1 from 10 to 20; limit 7;");
+        int[] minutes = {0, 9, 10, 19, 20, 1439};
+        for (int minute : minutes) {
+            for (int kind = 0; kind <= 3; kind++) {
+                due("may of " + kind + " in " + minute, x.may(kind, 0, minute), 0);
+                due("speed of " + kind + " in " + minute, x.speed(kind, 0, minute), 7);
+            }
+        }
+    }
+
     private static void roundedUp() {
         sentence("A STREET takes LENGTH * 10 / SPEED minutes (rounded up)");
         int[] lengths = {1, 2, 3, 7, 30, 59, 60};
@@ -272,6 +287,14 @@ public final class DriveEdgesTest extends Due {
         due("comes in 96, enters in 100", x.fastest(0, 0, 2, 86), NONE);
         due("comes in 97, enters in 101", x.fastest(0, 0, 2, 87), 10 + 4 + 10);
         due("comes in 100, enters in 104", x.fastest(0, 0, 2, 90), 10 + 4 + 10);
+        CrossDawn far = star(3);
+        far.corners(0, 4);
+        // From street 0 (4 minutes) into street 2 (8 minutes) it is far on the left.
+        read(far, "not all on s2 from 100 to 101;");
+        due("comes in 95, enters in 99", far.fastest(0, 1, 3, 91), 4 + 4 + 8);
+        due("comes in 96, enters in 100", far.fastest(0, 1, 3, 92), NONE);
+        due("comes in 97, enters in 101", far.fastest(0, 1, 3, 93), 4 + 4 + 8);
+        due("comes in 100, enters in 104", far.fastest(0, 1, 3, 96), 4 + 4 + 8);
         CrossDawn y = chain(3, 5, false);
         y.corners(4, 0);
         due("enters a way of one direction in 299", y.fastest(0, 0, 2, 285), 24);
@@ -312,12 +335,37 @@ public final class DriveEdgesTest extends Due {
         x.street(2, 0, 1, true);
         x.street(0, 3, 1, true);
         x.corners(0, 0);
-        read(x, "not all on s3 from 0 to 6;");
-        due("one round of 6 minutes", x.fastest(0, 0, 3, 0), 8);
-        due("one round, and the street", x.streets(0, 0, 3, 0), 4);
-        read(x, "not all on s3 from 0 to 7;");
-        due("two rounds of 6 minutes", x.fastest(0, 0, 3, 0), 14);
-        due("two rounds, and the street", x.streets(0, 0, 3, 0), 7);
+        // With the hour behind the last change, and ahead of it; with changes by ends and by beginnings.
+        int[] hours = {300, 0};
+        String[] texts = {"not all on s3 from 0 to ", "not all on s3; may all on s3 from "};
+        String[] ends = {";", " to 1440;"};
+        for (int hour : hours) {
+            x.hour(hour);
+            for (int i = 0; i < 2; i++) {
+                due("acts()", read(x, texts[i] + 6 + ends[i]) > 0, true);
+                due("one round of 6 minutes", x.fastest(0, 0, 3, 0), 8);
+                due("one round, and the street", x.streets(0, 0, 3, 0), 4);
+                due("acts()", read(x, texts[i] + 7 + ends[i]) > 0, true);
+                due("two rounds of 6 minutes", x.fastest(0, 0, 3, 0), 14);
+                due("two rounds, and the street", x.streets(0, 0, 3, 0), 7);
+            }
+        }
+    }
+
+    private static void longestTurnAndStreet() {
+        sentence("NEAR .. FAR minutes (0 .. 9) .. LENGTH 1 .. 60 .. N 1 .. 20 (the longest of each on a WAY)");
+        CrossDawn x = town(4);
+        x.street(2, 3, 1, true);
+        x.street(1, 2, 60, true);
+        x.street(0, 1, 1, true);
+        x.corners(9, 9);
+        read(x, "limit 1;");
+        due("a turn and a street of 609 minutes", x.fastest(0, 0, 2, 0), 10 + 609);
+        due("and back", x.fastest(0, 3, 1, 0), 10 + 609);
+        due("and one more", x.fastest(0, 0, 3, 0), 10 + 609 + 19);
+        due("and back", x.fastest(0, 3, 0, 0), 10 + 609 + 19);
+        read(x, "limit 20;");
+        due("streets of 1 minute each", x.fastest(0, 0, 3, 0), 1 + 9 + 30 + 9 + 1);
     }
 
     /** Five streets of 600 minutes each; at crossing 3, reached on the right, one turns far. */
@@ -442,6 +490,8 @@ public final class DriveEdgesTest extends Due {
             due("fastest from " + crossing, x.fastest(3, crossing, crossing, 1439), 0);
             due("streets from " + crossing, x.streets(0, crossing, crossing, 0), 0);
         }
+        due("as the first question of all", town(1).fastest(0, 0, 0, 0), 0);
+        due("as the first question of all", town(1).streets(0, 0, 0, 0), 0);
         due("of no kind", x.fastest(4, 0, 0, 0), NONE);
         due("in no minute", x.streets(0, 0, 0, 1440), NONE);
         due("in no minute", x.fastest(0, 0, 0, -1), NONE);
@@ -494,6 +544,10 @@ public final class DriveEdgesTest extends Due {
     private static void waysOfWhatChanged() {
         sentence("13: as all is when it is asked");
         CrossDawn x = star(3);
+        due("at first", x.fastest(0, 1, 2, 0), 10);
+        due("from another", x.fastest(0, 3, 2, 0), 16);
+        due("to another", x.fastest(0, 3, 0, 0), 8);
+        due("in another minute", x.fastest(0, 1, 2, 300), 12);
         due("at first", x.fastest(0, 1, 2, 0), 10);
         x.corners(5, 2);
         due("behind corners()", x.fastest(0, 1, 2, 0), 15);

@@ -36,6 +36,8 @@ public final class TextEdgesTest extends Due {
         leastAtOnePlace();
         mayAct();
         limitAct();
+        tokensThatCantStandThere();
+        wordsThatAreNone();
         finish();
     }
 
@@ -312,6 +314,8 @@ public final class TextEdgesTest extends Due {
         fault("may car on s150;", 2, 11);
         fault("may car on s0000;", 2, 11);
         fault("may car on s00000;", 2, 11);
+        fault("may car on s12345678;", 2, 11);
+        fault("may car on s1234567890abcdefghij;", 2, 11);
         fault("may car on S1;", 1, 11);
         fault("may car on 1;", 2, 11);
         fault("may car on ss1;", 2, 11);
@@ -572,5 +576,44 @@ public final class TextEdgesTest extends Due {
         fault("limit car;", 2, 6);
         fault("limit on s1;", 2, 6);
         fault("limit s1;", 2, 6);
+    }
+
+    /** What can be begun, and the tokens that can stand behind it. */
+    private static final String[][] BEGUN = {{"", "may not limit"}, {"may ", "car bus truck bike all"},
+        {"not ", "car bus truck bike all"}, {"limit ", "7"}, {"limit 5 ", "car bus truck bike all on from ;"},
+        {"limit 5 bus ", "on from ;"}, {"may car ", "on from ;"}, {"may all on ", "s1"}, {"not bus on s2 ", "from ;"},
+        {"limit 5 on ", "s1"}, {"limit 5 on s2 ", "from ;"}, {"may car from ", "7"}, {"may car from 5 ", "to"},
+        {"may car from 5 to ", "7"}, {"may car from 5 to 6 ", ";"}, {"limit 5 from ", "7"}, {"limit 5 from 5 ", "to"},
+        {"limit 5 from 5 to ", "7"}, {"limit 5 from 5 to 6 ", ";"}, {"may car;", "may not limit"}};
+
+    private static void tokensThatCantStandThere() {
+        sentence("2 one that can't stand there");
+        String[] tokens = "may not limit car bus truck bike all on from to s1 7 ; tram s n".split(" ");
+        for (String[] begun : BEGUN) {
+            for (String token : tokens) {
+                String text = begun[0] + token;
+                boolean stands = (" " + begun[1] + " ").contains(" " + token + " ");
+                if (stands && token.equals(";")) {
+                    right(text, 1);
+                } else {
+                    fault(text, 2, stands ? text.length() : begun[0].length());
+                }
+            }
+        }
+    }
+
+    private static void wordsThatAreNone() {
+        sentence("2 one that can't stand there (words that are nearly others)");
+        String[] words = {"may", "not", "limit", "car", "bus", "truck", "bike", "all", "on", "from", "to"};
+        String[] begun = {"", "", "", "may ", "may ", "may ", "may ", "may ", "may car ", "may car ", "may car from 5 "};
+        for (int i = 0; i < words.length; i++) {
+            int place = begun[i].length();
+            for (int j = 0; j < words[i].length(); j++) {
+                fault(begun[i] + words[i].substring(0, j) + "x" + words[i].substring(j + 1), 2, place);
+                fault(begun[i] + words[i].substring(0, j) + words[i].substring(j + 1), 2, place);
+            }
+            fault(begun[i] + words[i] + words[i].charAt(0), 2, place);
+            fault(begun[i] + words[i].toUpperCase(), 1, place);
+        }
     }
 }

@@ -1,6 +1,7 @@
 /** Promises 1 to 6 and 25, and part 1 of the terms: each sentence that names a boundary. */
 public final class TownEdgesTest extends Due {
     public static void main(String[] args) {
+        noneIsMinus1();
         atFirst();
         objectsHaveTheirOwn();
         calls512();
@@ -27,6 +28,11 @@ public final class TownEdgesTest extends Due {
         nearsAndFarsAtFirst();
         abouts0To8();
         finish();
+    }
+
+    private static void noneIsMinus1() {
+        sentence("NONE = -1: There is none");
+        due("NONE", CrossDawn.NONE, -1);
     }
 
     private static void atFirst() {
