@@ -67,10 +67,15 @@ public final class FaceTest {
     /** No method of a class inside bears a public name; classes and fields are few. */
     private static void names() {
         Set<String> names = METHODS.stream().map(m -> m.replaceAll(".* |\\(.*", "")).collect(Collectors.toSet());
+        for (Method m : CrossDawn.class.getDeclaredMethods()) {
+            holds("a name of its own: " + m, Modifier.isPublic(m.getModifiers()) || !names.contains(m.getName()));
+        }
         Class<?>[] inside = CrossDawn.class.getDeclaredClasses();
         holds("at most twelve classes", inside.length < 12);
         for (Class<?> c : inside) {
             holds("static: " + c, Modifier.isStatic(c.getModifiers()));
+            holds("private or package-visible: " + c,
+                (c.getModifiers() & (Modifier.PUBLIC | Modifier.PROTECTED)) == 0);
             for (Method m : c.getDeclaredMethods()) {
                 holds("a name of its own: " + m, !names.contains(m.getName()));
                 holds("at most seven parameters: " + m, m.getParameterCount() <= 7);
