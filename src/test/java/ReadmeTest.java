@@ -23,7 +23,7 @@ public final class ReadmeTest extends Due {
         String readme = Files.readString(Path.of("README.md"));
         String example = blocks(readme, false);
         holdAnswers(example, blocks(readme, true));
-        namesCalls(example + blocks(readme, true));
+        namesCalls(example);
         namesClasses(readme);
         namesTests(readme);
         finish();
@@ -79,10 +79,10 @@ public final class ReadmeTest extends Due {
         return got;
     }
 
-    private static void namesCalls(String code) {
+    private static void namesCalls(String example) {
         for (Method method : CrossDawn.class.getDeclaredMethods()) {
             if (Modifier.isPublic(method.getModifiers())) {
-                due("the example calls " + method, code.contains("land." + method.getName() + "("), true);
+                due("the example calls " + method, example.contains("land." + method.getName() + "("), true);
             }
         }
     }
